@@ -1104,7 +1104,7 @@ public final class PageOne {
             return how == 0 ? h : 0;
         }
 
-        /** Closed editions are enough to look at: a printing of the one at hand is of today, and that is no earlier day. */
+        /** Closed editions are enough to look at: a printing in the one at hand is today's, and today is no earlier day. */
         boolean maySit(Piece p, int measure, int today) {
             boolean wasMendedBefore = isWithin(first[FIRST_DAY], 0, today - 1);
             if (wasMendedBefore || !isWithin(mended.first[FIRST_DAY], 0, today - 1)) {

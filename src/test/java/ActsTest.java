@@ -16,6 +16,7 @@ public final class ActsTest {
         rules();
         fills();
         fillsByNumber();
+        fillsEachRow();
         undoes();
         undoesFills();
         threeHundredActs();
@@ -350,6 +351,17 @@ public final class ActsTest {
         Due.is("17: the lower number first", x.cell(0, 0, 0), b);
         Due.is("17: then the other", x.cell(0, 1, 2), c);
         Due.is("17: the other page is left alone", x.cell(1, 0, 2), -2);
+    }
+
+    private static void fillsEachRow() {
+        PageOne x = Make.desk(8);
+        int two = x.filler(2, 2);
+        int three = x.filler(3, 3);
+        x.filler(5, 6);
+        x.rule(0, 0, 2);
+        x.rule(0, 0, 6);
+        Due.is("17: rows of 2, 3 and 1", x.fill(0), 2);
+        Due.are("17: each row by itself", Make.column(x, 0, 0, 8), two, two, 100, three, three, three, 100, -2);
     }
 
     private static void undoes() {

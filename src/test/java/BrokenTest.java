@@ -176,6 +176,21 @@ public final class BrokenTest {
         x.lift(s);
         x.put(s, 0, 0, 4, 1);
         Due.are("26: further down", Make.broken(x, 0), 5, h, -1);
+
+        PageOne y = Make.desk(5, 5, 5);
+        int u = Make.story(y, 1, 9);
+        int k = y.head(u, 1, 1);
+        y.put(k, 0, 1, 2, 0);
+        y.put(u, 0, 2, 3, 1);
+        Due.are("26: below on the right", Make.broken(y, 0), 5, k, -1);
+        y.lift(u);
+        y.put(u, 0, 0, 3, 1);
+        Due.are("26: below on the left", Make.broken(y, 0), 5, k, -1);
+        y.lift(u);
+        y.put(u, 0, 1, 1, 1);
+        Due.are("26: right above", Make.broken(y, 0), 5, k, -1);
+        y.put(u, 0, 1, 3, 1);
+        Due.are("26: right below too", Make.broken(y, 0), 0, -1, -1);
     }
 
     private static void theirOrder() {
@@ -197,6 +212,8 @@ public final class BrokenTest {
         Due.are("26: 2 before 3", Make.broken(x, 0), 2, s, p);
         x.put(q, 0, 3, 0, 0);
         Due.are("26: 1 before 2", Make.broken(x, 0), 1, p, q);
+        Due.is("26: what -1 of a broken page", x.broken(0, -1), -1);
+        Due.is("26: what 3 of a broken page", x.broken(0, 3), -1);
     }
 
     private static void wrongNumbers() {

@@ -165,6 +165,7 @@ public final class ItemsTest {
         Due.is("8: 1 by 1 once more", x.size(1, 1, 1), 4);
         Due.is("8: a fifth", x.size(1, 1, 2), -1);
         Due.is("8: another's first", x.size(2, 1, 2), 1);
+        Due.is("8: number 4 of four", x.put(1, 0, 0, 0, 4), -1);
         Due.is("8: number 2", x.put(1, 0, 0, 0, 2), 1);
         Due.are("8: 1 by 3 stands", Make.piece(x, 1, 0), 0, 0, 0, 1, 3, 0, 0);
     }
@@ -272,6 +273,7 @@ public final class ItemsTest {
 
     private static void eightyItems() {
         PageOne x = Make.desk(1);
+        Make.columns(x, 1, 1);
         int f = x.filler(1, 1);
         int s = x.story(1);
         x.put(f, 0, 0, 0, 1);
@@ -289,6 +291,14 @@ public final class ItemsTest {
         Due.is("5: the last one's line", x.line(79, 5), 1);
         Due.is("24: the last one", x.item(79, 2), 1);
         Due.is("24: none behind it", x.item(80, 0), -1);
+        Due.is("30: a bill among 80 items", x.bill(0, 0), 0);
+        Due.are("26: what is broken among 80 items", Make.broken(x, 0), 0, -1, -1);
+        x.undo();
+        Due.is("17: a filler among 80 items", x.fill(0), 1);
+        Due.is("17: no other among 80 items", x.fill(1), 0);
+        Due.is("21: a day of 80 items", x.day(), 1);
+        Due.is("27: printed among 80 items", x.printed(f, 0), 0);
+        Due.is("27: not printed among 80 items", x.printed(79, 0), -1);
     }
 
     private static void itemFacts() {

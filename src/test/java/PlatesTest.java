@@ -2,6 +2,7 @@
 public final class PlatesTest {
     public static void main(String[] args) {
         plates();
+        everyCellCounts();
         brokenPagesAreNotPlated();
         editions();
         days();
@@ -36,6 +37,29 @@ public final class PlatesTest {
         Due.is("19: once more", x.plate(0), 5);
         Due.is("19: one page", x.about(4), 1);
         Due.is("19: no act", x.about(3), 4);
+    }
+
+    private static void everyCellCounts() {
+        PageOne x = Make.desk(2, 2);
+        x.rule(0, 1, 0);
+        x.rule(0, 1, 1);
+        x.rule(0, 0, 0);
+        Due.is("19: column 0 alone is short", x.plate(0), -1);
+        x.rule(0, 0, 1);
+        Due.is("19: all four", x.plate(0), 4);
+
+        PageOne y = Make.desk(60, 60, 60, 60, 60, 60, 60, 60);
+        int p = y.picture();
+        y.size(p, 8, 59);
+        int f = y.picture();
+        y.size(f, 8, 1);
+        y.put(p, 0, 0, 0, 0);
+        Due.is("19: the last line is empty", y.plate(0), -1);
+        y.put(f, 0, 0, 59, 0);
+        Due.is("19: a whole page", y.plate(0), 480);
+        Due.is("28: its last cell but one", y.plated(0, 7, 58), p);
+        Due.is("28: its last cell", y.plated(0, 7, 59), f);
+        Due.are("27: in its last line", Make.printed(y, f), 0, 0, 0, 0, 59);
     }
 
     private static void brokenPagesAreNotPlated() {

@@ -1,0 +1,123 @@
+import java.lang.reflect.Constructor;
+import java.lang.reflect.Field;
+import java.lang.reflect.Method;
+import java.lang.reflect.Modifier;
+import java.nio.file.Files;
+import java.nio.file.Path;
+import java.util.Arrays;
+import java.util.Map;
+import java.util.Set;
+import java.util.TreeSet;
+import java.util.regex.Matcher;
+import java.util.regex.Pattern;
+import java.util.stream.Collectors;
+
+/** The class's face, and those rules of LANGUAGE.md that can be looked up in the class and in its text. */
+public final class FaceTest {
+    /** How many ints each method takes; those that answer boolean stand in TRUTHS. */
+    private static final Map<String, Integer> FACE = Map.ofEntries(
+            Map.entry("column", 3), Map.entry("measure", 2), Map.entry("story", 1), Map.entry("line", 2),
+            Map.entry("head", 3), Map.entry("picture", 0), Map.entry("size", 3), Map.entry("paid", 7),
+            Map.entry("filler", 2), Map.entry("notice", 2), Map.entry("rival", 2), Map.entry("names", 2),
+            Map.entry("put", 5), Map.entry("lift", 1), Map.entry("rule", 3), Map.entry("fill", 1),
+            Map.entry("undo", 0), Map.entry("plate", 1), Map.entry("edition", 0), Map.entry("day", 0),
+            Map.entry("cell", 3), Map.entry("piece", 3), Map.entry("item", 2), Map.entry("shortOf", 2),
+            Map.entry("broken", 2), Map.entry("printed", 2), Map.entry("plated", 3), Map.entry("plateOf", 2),
+            Map.entry("bill", 2), Map.entry("about", 1));
+    private static final Set<String> TRUTHS = Set.of("column", "measure", "rival", "names", "rule");
+    private static final String FORBIDDEN = "\\b(throw|throws|try|catch|finally|synchronized|assert|volatile|"
+            + "transient|native|protected|package|Object|Thread|Random|hashCode|equals|toString|\\w+Exact)\\b|->|::|@";
+
+    public static void main(String[] args) throws Exception {
+        face();
+        nested();
+        text();
+        Due.end();
+    }
+
+    private static void face() {
+        Class<?> c = PageOne.class;
+        Due.yes("the class is public and final", Modifier.isPublic(c.getModifiers()) && Modifier.isFinal(c.getModifiers()));
+        Due.is("it has no class above it", c.getSuperclass() == Object.class ? 1 : 0, 1);
+        Constructor<?>[] made = c.getDeclaredConstructors();
+        Due.is("constructors", made.length, 1);
+        Due.yes("its constructor is public, of nothing", Modifier.isPublic(made[0].getModifiers()) && made[0].getParameterCount() == 0);
+        Set<String> seen = new TreeSet<>();
+        for (Method m : c.getDeclaredMethods()) {
+            if (Modifier.isPrivate(m.getModifiers())) {
+                Due.no("a private method bears a public name: " + m.getName(), FACE.containsKey(m.getName()));
+                continue;
+            }
+            Due.yes("twice: " + m.getName(), seen.add(m.getName()));
+            Due.is(m.getName() + ": modifiers", m.getModifiers(), Modifier.PUBLIC);
+            Due.is(m.getName() + ": parameters", m.getParameterCount(), FACE.getOrDefault(m.getName(), -1));
+            Due.yes(m.getName() + ": ints", Arrays.stream(m.getParameterTypes()).allMatch(t -> t == int.class));
+            Due.yes(m.getName() + ": answer", m.getReturnType() == (TRUTHS.contains(m.getName()) ? boolean.class : int.class));
+        }
+        Due.is("methods of the face", seen.size(), FACE.size());
+        for (Field f : c.getDeclaredFields()) {
+            boolean isNone = f.getName().equals("NONE");
+            Due.is(f.getName() + ": public", Modifier.isPublic(f.getModifiers()) ? 1 : 0, isNone ? 1 : 0);
+            Due.yes(f.getName() + ": private", isNone || Modifier.isPrivate(f.getModifiers()));
+        }
+    }
+
+    private static void nested() {
+        Class<?>[] inside = PageOne.class.getDeclaredClasses();
+        Due.yes("at most twelve classes", inside.length + 1 <= 12);
+        fields(PageOne.class);
+        for (Class<?> c : inside) {
+            Due.yes(c.getName() + " is static", Modifier.isStatic(c.getModifiers()));
+            Due.no(c.getName() + " is no part of the face", Modifier.isPublic(c.getModifiers()) || Modifier.isProtected(c.getModifiers()));
+            fields(c);
+            for (Method m : c.getDeclaredMethods()) {
+                Due.no("a method inside bears a public name: " + m.getName(), FACE.containsKey(m.getName()));
+                Due.yes(m.getName() + ": at most seven parameters", m.getParameterCount() <= 7);
+            }
+        }
+    }
+
+    private static void fields(Class<?> c) {
+        int own = 0;
+        for (Field f : c.getDeclaredFields()) {
+            if (Modifier.isStatic(f.getModifiers())) {
+                Due.yes(f.getName() + ": a static field is final", Modifier.isFinal(f.getModifiers()));
+                Due.yes(f.getName() + ": a constant is an int", f.getType() == int.class);
+            } else {
+                own++;
+            }
+        }
+        Due.yes(c.getName() + ": at most twenty fields", own <= 20);
+    }
+
+    private static void text() throws Exception {
+        String all = Files.readString(Path.of("src/main/java/PageOne.java"));
+        Due.yes("signs 1 to 127", all.chars().allMatch(ch -> ch >= 1 && ch <= 127));
+        String bare = all.replaceAll("(?s)/\\*.*?\\*/", "").replaceAll("//[^\\n]*", "");
+        Matcher m = Pattern.compile(FORBIDDEN).matcher(bare);
+        while (m.find()) {
+            Due.is("a word that the rules leave out: " + m.group(), 1, 0);
+        }
+        Set<String> imports = bare.lines().filter(l -> l.startsWith("import ")).collect(Collectors.toSet());
+        Due.yes("imports", imports.equals(Set.of("import java.util.Arrays;")));
+        Due.no("System is there for arraycopy", Pattern.compile("System\\.(?!arraycopy)").matcher(bare).find());
+        Due.no("Arrays is there for fill", Pattern.compile("Arrays\\.(?!fill)").matcher(bare.replace("java.util.Arrays", "")).find());
+        longest(bare);
+    }
+
+    /** A method's lines, from its head to the brace that ends it at the same depth. */
+    private static void longest(String bare) {
+        String[] lines = bare.split("\n");
+        for (int i = 0; i < lines.length; i++) {
+            Matcher head = Pattern.compile("^( {4}| {8})(?! )[\\w\\[\\] ]+\\(.*\\) \\{$").matcher(lines[i]);
+            if (!head.find() || lines[i].matches("\\s*(if|for|while|switch|\\} else).*")) {
+                continue;
+            }
+            int end = i;
+            while (end < lines.length && !lines[end].equals(head.group(1) + "}")) {
+                end++;
+            }
+            Due.yes("at most sixty lines: " + lines[i].trim(), end - i <= 60);
+        }
+    }
+}
