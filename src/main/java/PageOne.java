@@ -829,13 +829,17 @@ public final class PageOne {
         }
 
         /** How many columns a piece has that is put so; 0: none can be put so. */
-        abstract int columnsBy(int how);
+        int columnsBy(int how) {
+            return 1;
+        }
 
         /** How many lines a piece has that is put so; 0: none can be put so. */
         abstract int linesBy(int how);
 
         /** Whether the item itself lets a piece stand there, on cells that are free. */
-        abstract boolean maySit(Piece p, int measure, int today);
+        boolean maySit(Piece p, int measure, int today) {
+            return true;
+        }
 
         boolean hasRoom() {
             return count < pieces.length;
@@ -914,10 +918,6 @@ public final class PageOne {
             return come;
         }
 
-        int columnsBy(int how) {
-            return 1;
-        }
-
         int linesBy(int how) {
             return isWithin(how, 1, MOST_LINES) ? how : 0;
         }
@@ -993,10 +993,6 @@ public final class PageOne {
         int linesBy(int how) {
             return how == 0 ? h : 0;
         }
-
-        boolean maySit(Piece p, int measure, int today) {
-            return true;
-        }
     }
 
     private static final class Picture extends Item {
@@ -1024,10 +1020,6 @@ public final class PageOne {
 
         int linesBy(int how) {
             return isWithin(how, 0, sizes - 1) ? heights[how] : 0;
-        }
-
-        boolean maySit(Piece p, int measure, int today) {
-            return true;
         }
     }
 
@@ -1073,16 +1065,8 @@ public final class PageOne {
             this.most = most;
         }
 
-        int columnsBy(int how) {
-            return 1;
-        }
-
         int linesBy(int how) {
             return isWithin(how, least, most) ? how : 0;
-        }
-
-        boolean maySit(Piece p, int measure, int today) {
-            return true;
         }
     }
 
@@ -1094,10 +1078,6 @@ public final class PageOne {
             super(number, NOTICE, 1);
             this.mended = mended;
             this.h = h;
-        }
-
-        int columnsBy(int how) {
-            return 1;
         }
 
         int linesBy(int how) {
