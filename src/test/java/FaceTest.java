@@ -7,6 +7,7 @@ import java.nio.file.Path;
 import java.util.Arrays;
 import java.util.Map;
 import java.util.Set;
+import java.util.TreeMap;
 import java.util.TreeSet;
 import java.util.regex.Matcher;
 import java.util.regex.Pattern;
@@ -27,6 +28,8 @@ public final class FaceTest {
     private static final Set<String> TRUTHS = Set.of("column", "measure", "rival", "names", "rule");
     private static final String FORBIDDEN = "\\b(throw|throws|try|catch|finally|synchronized|assert|volatile|"
             + "transient|native|protected|package|Object|Thread|Random|hashCode|equals|toString|\\w+Exact)\\b|->|::|@";
+
+    private static final Pattern METHOD = Pattern.compile("^( {4}| {8})(?! )[\\w\\[\\] ]*?(\\w+)\\(.*\\) \\{$");
 
     public static void main(String[] args) throws Exception {
         face();
@@ -66,14 +69,24 @@ public final class FaceTest {
         Class<?>[] inside = PageOne.class.getDeclaredClasses();
         Due.yes("at most twelve classes", inside.length + 1 <= 12);
         fields(PageOne.class);
+        parameters(PageOne.class);
         for (Class<?> c : inside) {
             Due.yes(c.getName() + " is static", Modifier.isStatic(c.getModifiers()));
             Due.no(c.getName() + " is no part of the face", Modifier.isPublic(c.getModifiers()) || Modifier.isProtected(c.getModifiers()));
             fields(c);
+            parameters(c);
             for (Method m : c.getDeclaredMethods()) {
                 Due.no("a method inside bears a public name: " + m.getName(), FACE.containsKey(m.getName()));
-                Due.yes(m.getName() + ": at most seven parameters", m.getParameterCount() <= 7);
             }
+        }
+    }
+
+    private static void parameters(Class<?> c) {
+        for (Method m : c.getDeclaredMethods()) {
+            Due.yes(m.getName() + ": at most seven parameters", m.getParameterCount() <= 7);
+        }
+        for (Constructor<?> made : c.getDeclaredConstructors()) {
+            Due.yes(c.getName() + ": made of at most seven", made.getParameterCount() <= 7);
         }
     }
 
@@ -102,14 +115,68 @@ public final class FaceTest {
         Due.yes("imports", imports.equals(Set.of("import java.util.Arrays;")));
         Due.no("System is there for arraycopy", Pattern.compile("System\\.(?!arraycopy)").matcher(bare).find());
         Due.no("Arrays is there for fill", Pattern.compile("Arrays\\.(?!fill)").matcher(bare.replace("java.util.Arrays", "")).find());
+        Due.no("no texts, so none are joined or compared", bare.contains("\"") || bare.contains("String"));
+        Due.no("no casts", Pattern.compile("\\((int|long|short|byte|char|double|float|[A-Z]\\w*)\\) ?[\\w(]").matcher(bare).find());
+        Due.no("divisors are constants", Pattern.compile("[/%] (?!MOST_LINES\\b)").matcher(bare).find());
         longest(bare);
+        loops(bare);
+        depths(bare);
+    }
+
+    /** Loops count up to a bound, or go along a chain of acts; there are no others. */
+    private static void loops(String bare) {
+        Due.no("no while, no do", Pattern.compile("\\b(while|do)\\b").matcher(bare).find());
+        Matcher m = Pattern.compile("\\bfor \\(.*").matcher(bare);
+        Pattern counts = Pattern.compile("for \\(int (\\w+) = [^;]+; \\1 <=? [^;]+; \\1\\+\\+\\) \\{");
+        while (m.find()) {
+            boolean chain = m.group().equals("for (Act part = act; part != null; part = part.ahead) {");
+            Due.yes("a loop whose end is seen: " + m.group(), chain || counts.matcher(m.group()).matches());
+        }
+    }
+
+    /** Methods of one name are taken as one, so that what is counted is never less than what can happen. */
+    private static void depths(String bare) {
+        Map<String, Set<String>> calls = new TreeMap<>();
+        String[] lines = bare.split("\n");
+        for (int i = 0; i < lines.length; i++) {
+            Matcher head = METHOD.matcher(lines[i]);
+            if (!head.find() || lines[i].matches("\\s*(if|for|while|switch|\\} else).*")) {
+                continue;
+            }
+            Set<String> called = calls.computeIfAbsent(head.group(2), n -> new TreeSet<>());
+            for (int k = i + 1; k < lines.length && !lines[k].equals(head.group(1) + "}"); k++) {
+                Matcher call = Pattern.compile("(?<!Arrays\\.)\\b([A-Za-z]\\w*)\\(").matcher(lines[k]);
+                while (call.find()) {
+                    called.add(call.group(1));
+                }
+            }
+        }
+        Due.yes("the methods were found", calls.keySet().containsAll(FACE.keySet()) && calls.containsKey("PageOne"));
+        for (String name : calls.keySet()) {
+            int deep = depth(name, calls, 0);
+            Due.yes("calls go " + deep + " deep: " + name, deep <= 8);
+        }
+    }
+
+    private static int depth(String name, Map<String, Set<String>> calls, int above) {
+        if (!calls.containsKey(name)) {
+            return 0;
+        }
+        if (above > 30) {
+            return 1000;
+        }
+        int deepest = 0;
+        for (String called : calls.get(name)) {
+            deepest = Math.max(deepest, depth(called, calls, above + 1));
+        }
+        return deepest + 1;
     }
 
     /** A method's lines, from its head to the brace that ends it at the same depth. */
     private static void longest(String bare) {
         String[] lines = bare.split("\n");
         for (int i = 0; i < lines.length; i++) {
-            Matcher head = Pattern.compile("^( {4}| {8})(?! )[\\w\\[\\] ]+\\(.*\\) \\{$").matcher(lines[i]);
+            Matcher head = METHOD.matcher(lines[i]);
             if (!head.find() || lines[i].matches("\\s*(if|for|while|switch|\\} else).*")) {
                 continue;
             }

@@ -70,12 +70,14 @@ final class Make {
         return facts;
     }
 
-    /** Rules on a page's free cells, as far as there are some within 60 lines of 8 columns. */
+    /** Rules on a page's free cells; it asks for no more cells than there are, as a desk is promised for 512 calls. */
     static void ruleRest(PageOne x, int page) {
         for (int column = 0; column < 8; column++) {
-            for (int line = 0; line < 60; line++) {
+            int left = x.shortOf(page, column);
+            for (int line = 0; line < 60 && left > 0; line++) {
                 if (x.cell(page, column, line) == -2) {
                     Due.yes("rule", x.rule(page, column, line));
+                    left--;
                 }
             }
         }
