@@ -9,6 +9,7 @@ public final class ActBoundsTest {
         putToTheColumnsEnd();
         putSideBySide();
         putOnWhatIsTaken();
+        allCellsAreTaken();
         onePieceOfOthers();
         sixPieces();
         theNextPieceIsBehind();
@@ -171,6 +172,33 @@ public final class ActBoundsTest {
         Twins.none("II: on a rule", Desks::busy, x -> x.put(Desks.STORY, 11, 7, 0, 2));
         Twins.none("II: on another story's cells", Desks::busy, x -> x.put(Desks.LONG_FILLER, 1, 0, 1, 3));
         Due.is("II: right beside them", Desks.busy().put(Desks.LONG_FILLER, 1, 1, 0, 3), 1);
+    }
+
+    private static PageOne fullPage() {
+        PageOne x = Make.desk(60, 60, 60, 60, 60, 60, 60, 60);
+        int p = x.picture();
+        x.size(p, 8, 60);
+        Due.is("II: a picture as large as the page", x.put(p, 0, 0, 0, 0), 1);
+        int s = Make.story(x, 1, 2);
+        x.head(s, 1, 1);
+        x.paid(0, 0, 7, 59, 1, 1, 1);
+        x.filler(1, 60);
+        return x;
+    }
+
+    private static void allCellsAreTaken() {
+        Twins.none("14: no room for a story", ActBoundsTest::fullPage, x -> x.put(1, 0, 0, 0, 1));
+        Twins.none("14: no room for a head", ActBoundsTest::fullPage, x -> x.put(2, 0, 3, 30, 0));
+        Twins.none("14: no room for a square", ActBoundsTest::fullPage, x -> x.put(3, 0, 7, 59, 0));
+        Twins.none("14: no room for a filler", ActBoundsTest::fullPage, x -> x.put(4, 0, 7, 59, 1));
+        Twins.no("16: no room for a rule", ActBoundsTest::fullPage, x -> x.rule(0, 7, 59));
+        PageOne x = fullPage();
+        Due.is("17: no row is left", x.fill(0), 0);
+        Due.is("17: so it is no act", x.about(3), 1);
+        x.lift(0);
+        Due.is("14: room again", x.put(3, 0, 7, 59, 0), 1);
+        Due.is("17: rows again, of which the first is the filler's", x.fill(0), 1);
+        Due.is("17: it has a whole column", x.piece(4, 0, 4), 60);
     }
 
     private static void onePieceOfOthers() {

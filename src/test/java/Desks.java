@@ -71,7 +71,7 @@ final class Desks {
         return x;
     }
 
-    /** A busy desk on which so many acts are kept; the latest is a rule that came or a story's piece that went. */
+    /** A busy desk on which so many acts are kept: the story's second piece goes and comes, again and again. */
     static PageOne withActs(int acts) {
         PageOne x = busy();
         for (int i = 7; i < acts; i++) {
