@@ -98,9 +98,16 @@ public final class FaceTest {
                 Due.yes(f.getName() + ": a constant is an int", f.getType() == int.class);
             } else {
                 own++;
+                Due.yes(f.getName() + ": a type that the rules leave", isPlain(f.getType()));
             }
         }
         Due.yes(c.getName() + ": at most twenty fields", own <= 20);
+    }
+
+    /** Ints, truths, the classes of the file, and rows of these; no rows of rows. */
+    private static boolean isPlain(Class<?> type) {
+        Class<?> one = type.isArray() ? type.getComponentType() : type;
+        return one == int.class || one == boolean.class || one.getNestHost() == PageOne.class;
     }
 
     private static void text() throws Exception {
@@ -117,6 +124,9 @@ public final class FaceTest {
         Due.no("Arrays is there for fill", Pattern.compile("Arrays\\.(?!fill)").matcher(bare.replace("java.util.Arrays", "")).find());
         Due.no("no texts, so none are joined or compared", bare.contains("\"") || bare.contains("String"));
         Due.no("no casts", Pattern.compile("\\((int|long|short|byte|char|double|float|[A-Z]\\w*)\\) ?[\\w(]").matcher(bare).find());
+        Due.no("no class without a name", Pattern.compile("new \\w+(\\[\\])?\\([^;]*\\) ?\\{").matcher(bare).find());
+        Due.no("no class within a method", Pattern.compile("(?m)^ {8,}.*\\b(class|interface|enum|record) ").matcher(bare).find());
+        Due.no("no static block", Pattern.compile("static \\{").matcher(bare).find());
         Due.no("divisors are constants", Pattern.compile("[/%] (?!MOST_LINES\\b)").matcher(bare).find());
         longest(bare);
         loops(bare);
@@ -151,10 +161,24 @@ public final class FaceTest {
                 }
             }
         }
+        constructors(calls);
         Due.yes("the methods were found", calls.keySet().containsAll(FACE.keySet()) && calls.containsKey("PageOne"));
         for (String name : calls.keySet()) {
             int deep = depth(name, calls, 0);
             Due.yes("calls go " + deep + " deep: " + name, deep <= 8);
+        }
+    }
+
+    /** A constructor calls nothing that another class could override. */
+    private static void constructors(Map<String, Set<String>> calls) {
+        Set<String> names = new TreeSet<>(Set.of("PageOne"));
+        for (Class<?> c : PageOne.class.getDeclaredClasses()) {
+            names.add(c.getSimpleName());
+        }
+        Set<String> free = new TreeSet<>(names);
+        free.addAll(Set.of("super", "isWithin"));
+        for (String name : names) {
+            Due.yes(name + " calls nothing that could be overridden", free.containsAll(calls.getOrDefault(name, Set.of())));
         }
     }
 
