@@ -24,6 +24,8 @@ public final class SentencesTest {
         eachKindIsLiftedAtTheDaysEnd();
         whatAPlateDoesNotAsk();
         undoneAfterEditionsAndPlates();
+        linesOfTwoStories();
+        fillsEveryRowThatItCan();
         fillAfterPlatesAndDays();
         billsOfDaysBefore();
         billsOfTwoPages();
@@ -541,6 +543,37 @@ public final class SentencesTest {
         Due.yes("2: no act is kept, though the page was plated", x.column(0, 0, 1));
         Due.is("28: the plate has its cells", x.plated(0, 0, 1), f);
         Due.yes("3: so for its measure", x.measure(0, 20));
+    }
+
+    private static void linesOfTwoStories() {
+        PageOne x = Make.desk(60);
+        x.measure(0, 20);
+        int s = x.story(1);
+        int t = x.story(1);
+        for (int i = 1; i <= 9; i++) {
+            Due.is("5: the one's", x.line(s, i == 5 ? 21 : 20), i);
+            Due.is("5: the other's", x.line(t, i == 7 ? 21 : 20), i);
+        }
+        Due.is("5: the one's fifth is wide", x.put(s, 0, 0, 0, 5), -1);
+        Due.is("5: four are not", x.put(s, 0, 0, 0, 4), 1);
+        Due.is("5: the other's seventh is wide", x.put(t, 0, 0, 10, 7), -1);
+        Due.is("5: six are not", x.put(t, 0, 0, 10, 6), 1);
+    }
+
+    /** Rows that no filler takes are passed by, at the top, between others and in a column of their own. */
+    private static void fillsEveryRowThatItCan() {
+        PageOne x = Make.desk(12, 3, 2);
+        for (int line : new int[] {3, 6, 10}) {
+            x.rule(0, 0, line);
+        }
+        int two = x.filler(2, 2);
+        int one = x.filler(1, 1);
+        int other = x.filler(2, 2);
+        Due.is("17: rows of 3, 2, 3 and 1, then of 3, then of 2", x.fill(0), 3);
+        Due.are("17: the second and the fourth", Make.column(x, 0, 0, 12),
+                -2, -2, -2, 100, two, two, 100, -2, -2, -2, 100, one);
+        Due.are("17: none", Make.column(x, 0, 1, 3), -2, -2, -2);
+        Due.are("17: the last", Make.column(x, 0, 2, 2), other, other);
     }
 
     private static void fillAfterPlatesAndDays() {

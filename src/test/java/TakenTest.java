@@ -56,7 +56,11 @@ public final class TakenTest {
             acts(g);
             puts(g);
             turns(g);
+            questions(g);
+            questionsOfWhatStands(g);
         }
+        questionsAtThreeHundredActs();
+        totalsOfAllAtOnce();
         Due.end();
     }
 
@@ -244,5 +248,81 @@ public final class TakenTest {
         Due.is("19: its edition, " + g.name, x.plateOf(3, 1), g.edition);
         Due.is("20: " + g.name, desk(g).edition(), g.edition < 7 ? g.edition + 1 : -1);
         Due.is("21: " + g.name, desk(g).day(), g.day < 399 ? g.day + 1 : -1);
+    }
+
+    private static void questions(Ground g) {
+        PageOne x = desk(g);
+        Due.are("22: " + g.name, Make.column(x, 1, 0, 3), -2, -2, -1);
+        Due.is("25: " + g.name, x.shortOf(1, 0), 2);
+        int[] kinds = {0, 1, 2, 3, 4, 4, 4, 5};
+        for (int item = 0; item < ITEMS; item++) {
+            Due.is("24: kind of item " + item + ", " + g.name, x.item(item, 0), kinds[item]);
+        }
+        Due.is("24: lines, " + g.name, x.item(STORY, 2), 3);
+        Due.is("24: whose head, " + g.name, x.item(HEAD, 4), STORY);
+        Due.is("24: whose square, " + g.name, x.item(PAID, 5), 0);
+        Due.is("24: what it mends, " + g.name, x.item(NOTICE, 4), MENDED);
+        Due.are("26: " + g.name, Make.broken(x, 1), 0, -1, -1);
+        Due.are("27: " + g.name, Make.printed(x, MENDED), 0, 0, 1, 0, 1);
+        Due.is("28: " + g.name, x.plated(1, 0, 1), MENDED);
+        Due.is("29: the day, " + g.name, x.plateOf(1, 0), 0);
+        Due.is("29: the edition, " + g.name, x.plateOf(1, 1), 0);
+        Due.is("30: " + g.name, x.bill(9, g.day), 0);
+        Due.is("30: the next day, " + g.name, x.bill(9, g.day + 1), -1);
+    }
+
+    private static void questionsOfWhatStands(Ground g) {
+        PageOne x = desk(g);
+        if (x.item(FILLER, 1) == 0) {
+            place(x, FILLER);
+        }
+        Due.is("24: pieces, " + g.name, x.item(FILLER, 1), 1);
+        Due.are("23: " + g.name, Make.piece(x, FILLER, 0), 0, 1, 2, 1, 1, 0, 0);
+        Due.is("22: a filler, " + g.name, x.cell(0, 1, 2), FILLER);
+        if (g.acts < 299 && x.item(HEAD, 1) == 0) {
+            place(x, HEAD);
+            Due.are("26: a head alone, " + g.name, Make.broken(x, 0), 5, HEAD, -1);
+            place(x, STORY);
+            Due.are("26: with its story, " + g.name, Make.broken(x, 0), 0, -1, -1);
+            Due.is("24: two lines stand, " + g.name, x.item(STORY, 3), 2);
+            place(x, PAID);
+            place(x, PICTURE);
+            Make.ruleRest(x, 0);
+            Due.is("19: the page, " + g.name, x.plate(0), 8);
+            Due.is("28: the square, " + g.name, x.plated(0, 1, 0), PAID);
+            Due.is("30: it is owed, " + g.name, x.bill(0, g.day), 5);
+            Due.is("29: the page's plate, " + g.name, x.plateOf(0, 0), g.day);
+        }
+    }
+
+    /** The square was printed; then a head comes without its story, its story comes elsewhere, and 298 acts more. */
+    private static void questionsAtThreeHundredActs() {
+        PageOne x = desk(new Ground("printed", TakenTest::printAll, 0, 0, ITEMS, 0));
+        x.edition();
+        place(x, HEAD);
+        x.put(STORY, 0, 1, 2, 2);
+        for (int i = 0; i < 149; i++) {
+            x.lift(HEAD);
+            place(x, HEAD);
+        }
+        Due.are("31: 300 acts", Make.about(x), 0, 1, ITEMS, 300, 0);
+        Due.are("26: with 300 acts", Make.broken(x, 0), 5, HEAD, -1);
+        Due.is("24: two lines stand", x.item(STORY, 3), 2);
+        Due.is("30: what was printed before them", x.bill(0, 0), 5);
+        Due.is("19: a page that isn't full", x.plate(0), -1);
+        Due.are("18: one less", new int[] {x.undo(), x.item(HEAD, 1)}, 299, 0);
+    }
+
+    private static void totalsOfAllAtOnce() {
+        PageOne x = desk(new Ground("80 items", y -> items(y, 80), 0, 0, 80, 0));
+        days(x, 3);
+        editions(x, 7);
+        acts(x, 300);
+        x.plate(3);
+        Due.are("31: all at once", Make.about(x), 3, 7, 80, 300, 1);
+        Due.is("24: the last item", x.item(79, 0), 4);
+        Due.is("28: page 3", x.plated(3, 0, 0), PRINTED);
+        x.day();
+        Due.are("31: the next day", Make.about(x), 4, 0, 80, 0, 0);
     }
 }
